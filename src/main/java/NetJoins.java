@@ -177,9 +177,10 @@ public final class NetJoins {
         if (ports.size() >= MOST_PORTS || hasPort(sheet, label, name)) {
             return false;
         }
-        Port added = new Port(sheet, label, name);
-        ports.add(added);
-        joinPort(added);
+        int inner = nameNode(sheet, labels.get(label).mark);
+        int outer = nameNode(sheets.get(sheet).parent, name);
+        ports.add(new Port(sheet, label, name, inner, outer));
+        joined.join(inner, outer);
         keepUp();
         return true;
     }
@@ -370,7 +371,7 @@ public final class NetJoins {
     }
 
     private int copiesOf(int drawn) {
-        return sheets.get(drawn).copies;
+        return drawn >= 0 && drawn < sheets.size() ? sheets.get(drawn).copies : 0;
     }
 
     // ---- what touches on a drawn sheet
@@ -482,11 +483,6 @@ public final class NetJoins {
         }
     }
 
-    private void joinPort(Port port) {
-        int inner = nameNode(port.sheet, labels.get(port.label).mark);
-        joined.join(inner, nameNode(sheets.get(port.sheet).parent, port.name));
-    }
-
     private void joinBusesOn(Sheet sheet) {
         for (int b = 0; b < buses.size(); b++) {
             if (buses.get(b).sheet == sheet.drawn) {
@@ -542,7 +538,7 @@ public final class NetJoins {
             joinBusesOn(sheets.get(i));
         }
         for (int i = 0; i < ports.size(); i++) {
-            joinPort(ports.get(i));
+            joined.join(ports.get(i).inner, ports.get(i).outer);
         }
     }
 
@@ -789,11 +785,16 @@ public final class NetJoins {
         final int sheet;
         final int label;
         final int name;
+        /** The nodes that it joins: the label's name on the sheet, and the name on the parent. */
+        final int inner;
+        final int outer;
 
-        Port(int sheet, int label, int name) {
+        Port(int sheet, int label, int name, int inner, int outer) {
             this.sheet = sheet;
             this.label = label;
             this.name = name;
+            this.inner = inner;
+            this.outer = outer;
         }
     }
 
@@ -945,7 +946,10 @@ public final class NetJoins {
             size[net[copy]]++;
         }
 
-        /** A copy that came or went changes the net it is in now, and the one it left. */
+        /**
+         * A copy that came or went changes the net it is in now, and the one it left; where the least
+         * one of that is no longer the least, it went too, and so its net is marked anyway.
+         */
         void markChanges() {
             for (int i = 0; i < isChanged.length; i++) {
                 isChanged[i] = false;
@@ -954,7 +958,7 @@ public final class NetJoins {
                 int before = leastBefore[i];
                 if (least[i] != before) {
                     isChanged[net[i]] = true;
-                    if (before != NONE && least[before] == before) {
+                    if (before != NONE) {
                         isChanged[net[before]] = true;
                     }
                 }

@@ -180,6 +180,13 @@ public final class PromisesTest {
         check.no(together(y, 0, 0, 2, 0), "on its line, behind it");
         check.no(together(y, 0, 0, 3, 0), "on its line, before it");
         check.no(together(y, 0, 0, 4, 0), "within its box, beside it");
+        NetJoins z = oneSheet();
+        z.wire(0, 0, 0, 1 << 20, 1 << 20);
+        z.pin(0, 0, 0, 1);
+        z.pin(0, 0, 1 << 12, 1);
+        z.pin(0, 1 << 12, 1 << 12, 1);
+        check.no(together(z, 0, 0, 1, 0), "beside it by a power of two");
+        check.yes(together(z, 0, 0, 2, 0), "on it by a power of two");
     }
 
     private static void wireErrors() {
@@ -282,6 +289,11 @@ public final class PromisesTest {
         x.label(0, 99, 99, 5);
         x.label(0, 99, 99, 899);
         check.yes(together(x, 0, 0, 3, 0), "two labels of one place");
+        NetJoins y = oneSheet();
+        y.label(0, 4, 0, 77);
+        y.pin(0, 0, 0, 1);
+        y.wire(0, 0, 0, 9, 0);
+        check.due(77, y.name(0), "a wire told after its label");
     }
 
     private static void labelErrors() {
@@ -424,9 +436,8 @@ public final class PromisesTest {
         x.sheet(-1, -1);
         named(x, 0, 3, 30);
         named(x, 0, 3, 40);
-        check.yes(x.bus(0, 7, 30, 32), "bus up");
-        check.due(12, x.nets(), "one bus joins nothing");
         check.yes(x.bus(2, 7, 42, 40), "a bus of this name on another sheet");
+        check.yes(x.bus(0, 7, 30, 32), "bus up");
         check.yes(x.bus(0, 8, 42, 40), "a bus of another name");
         check.due(12, x.nets(), "they join nothing");
         check.yes(x.bus(0, 7, 42, 40), "bus down");

@@ -15,6 +15,8 @@ public final class RandomRunsTest {
     private final long scale;
     private final int sheetBound;
     private final int busReach;
+    /** A kind of things that the run has many of, so that runs come to the limits too. */
+    private final int favourite;
     private final NetJoins x = new NetJoins();
     private final ReferenceNets y = new ReferenceNets();
     private int sheets = 0;
@@ -27,6 +29,7 @@ public final class RandomRunsTest {
         scale = random.nextInt(4) == 0 ? 1_000_000_000L / Math.max(1, spread / 2) : 1 + random.nextInt(3);
         sheetBound = 1 + random.nextInt(random.nextBoolean() ? 4 : 16);
         busReach = random.nextInt(8) == 0 ? 1000 : 6;
+        favourite = random.nextInt(13);
     }
 
     public static void main(String[] args) {
@@ -135,7 +138,7 @@ public final class RandomRunsTest {
         long d = random.nextInt(3) == 0 ? b : coordinate();
         int n = someName();
         String at = "(" + s + ", " + a + ", " + b;
-        switch (random.nextInt(13)) {
+        switch (random.nextInt(3) == 0 ? favourite : random.nextInt(13)) {
             case 0, 1, 2 -> compare("wire" + at + ", " + c + ", " + d + ")",
                     () -> x.wire(s, a, b, c, d), () -> y.wire(s, a, b, c, d));
             case 3 -> compareYes("junction" + at + ")", () -> x.junction(s, a, b), () -> y.junction(s, a, b));

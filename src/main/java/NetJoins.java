@@ -906,6 +906,8 @@ public final class NetJoins {
         final int[] size;
         private final boolean[] isChanged;
         int count;
+        /** No copy has come yet from here on; this spares most calls most of the rows. */
+        private int used;
 
         NetTable() {
             least = new int[PIN_COPIES];
@@ -921,7 +923,7 @@ public final class NetJoins {
         }
 
         boolean isAsRemembered() {
-            for (int i = 0; i < least.length; i++) {
+            for (int i = 0; i < used; i++) {
                 if (least[i] != leastBefore[i]) {
                     return false;
                 }
@@ -936,6 +938,7 @@ public final class NetJoins {
 
         /** Copies come rising, so that the least one of a net has its number before the others ask. */
         void put(int copy, int root) {
+            used = Math.max(used, copy + 1);
             least[copy] = root;
             if (root == copy) {
                 net[copy] = count;
@@ -951,10 +954,10 @@ public final class NetJoins {
          * one of that is no longer the least, it went too, and so its net is marked anyway.
          */
         void markChanges() {
-            for (int i = 0; i < isChanged.length; i++) {
+            for (int i = 0; i < used; i++) {
                 isChanged[i] = false;
             }
-            for (int i = 0; i < least.length; i++) {
+            for (int i = 0; i < used; i++) {
                 int before = leastBefore[i];
                 if (least[i] != before) {
                     isChanged[net[i]] = true;
@@ -989,7 +992,7 @@ public final class NetJoins {
         }
 
         int leastPin(int wanted) {
-            for (int i = 0; i < least.length; i++) {
+            for (int i = 0; i < used; i++) {
                 if (least[i] == i && net[i] == wanted) {
                     return i / MOST_SHEETS;
                 }

@@ -25,28 +25,28 @@ final class Check {
         due(0, got ? 1 : 0, call);
     }
 
+    void holds(boolean it, String otherwise) {
+        checks++;
+        if (!it) {
+            fault(otherwise);
+        }
+    }
+
     void throwsOut(LongSupplier call, String text) {
-        throwsJust(IndexOutOfBoundsException.class, call, text);
+        throwsJust(Calls.OUT, call, text);
     }
 
     void throwsState(LongSupplier call, String text) {
-        throwsJust(IllegalStateException.class, call, text);
+        throwsJust(Calls.STATE, call, text);
     }
 
     void throwsArgument(LongSupplier call, String text) {
-        throwsJust(IllegalArgumentException.class, call, text);
+        throwsJust(Calls.ARGUMENT, call, text);
     }
 
-    // Classes are compared as they are: one that the machine throws, below the due one, is wrong too.
-    private void throwsJust(Class<?> want, LongSupplier call, String text) {
-        checks++;
-        try {
-            fault(text + " answered " + call.getAsLong() + ", due is " + want.getSimpleName());
-        } catch (RuntimeException e) {
-            if (e.getClass() != want) {
-                fault(text + " threw " + e + ", due is " + want.getSimpleName());
-            }
-        }
+    private void throwsJust(long want, LongSupplier call, String text) {
+        long got = Calls.answer(call);
+        holds(got == want, text + " answered " + Calls.written(got) + ", due is " + Calls.written(want));
     }
 
     void fault(String text) {

@@ -1,3 +1,6 @@
+import java.util.ArrayList;
+import java.util.Collections;
+import java.util.List;
 import java.util.Random;
 import java.util.function.LongSupplier;
 
@@ -5,9 +8,6 @@ import java.util.function.LongSupplier;
 public final class RandomRunsTest {
     private static final int CALLS = 512;
     private static final int[] NAMES = {0, 1, 2, 3, 4, 5, 898, 899, 900, 901, 999};
-    private static final int OUT = -1001;
-    private static final int STATE = -1002;
-    private static final int ARGUMENT = -1003;
 
     private final Check check;
     private final Random random;
@@ -39,30 +39,19 @@ public final class RandomRunsTest {
             check.about("seed " + seed);
             new RandomRunsTest(check, seed).run();
         }
-        check.end();
-    }
-
-    private static long answer(LongSupplier call) {
-        try {
-            return call.getAsLong();
-        } catch (RuntimeException e) {
-            Class<?> thrown = e.getClass();
-            if (thrown == IndexOutOfBoundsException.class) {
-                return OUT;
-            }
-            if (thrown == IllegalStateException.class) {
-                return STATE;
-            }
-            if (thrown == IllegalArgumentException.class) {
-                return ARGUMENT;
-            }
-            throw e;
+        for (int seed = runs; seed < runs + 16 && check.faults() < 20; seed++) {
+            check.about("seed " + seed);
+            new RandomRunsTest(check, seed).runFull();
         }
+        check.end();
     }
 
     private void compare(String text, LongSupplier got, LongSupplier want) {
         calls++;
-        check.due(answer(want), answer(got), "call " + calls + ", " + text);
+        long due = Calls.answer(want);
+        long is = Calls.answer(got);
+        check.holds(is == due, "call " + calls + ", " + text + " answered " + Calls.written(is)
+                + ", due is " + Calls.written(due));
     }
 
     private void compareYes(String text, BooleanCall got, BooleanCall want) {
@@ -103,10 +92,49 @@ public final class RandomRunsTest {
             if (grow || rarely()) {
                 tellSheet();
             }
-            tellThing();
+            tellThing(random.nextInt(3) == 0 ? favourite : random.nextInt(13));
             ask();
         }
         sweep();
+    }
+
+    /** Tells as many things of each kind as there can be, and some more, in any order. */
+    private void runFull() {
+        List<Integer> kinds = new ArrayList<>();
+        int[] most = {16, 100, 50, 60, 60, 30, 16, 20};
+        for (int kind = 0; kind < most.length; kind++) {
+            kinds.addAll(Collections.nCopies(most[kind] + 4, kind));
+        }
+        Collections.shuffle(kinds, random);
+        tellSheet();
+        for (int kind : kinds) {
+            tellKind(kind);
+            if (random.nextInt(4) == 0) {
+                ask();
+            }
+        }
+        sweep();
+    }
+
+    private void tellKind(int kind) {
+        switch (kind) {
+            case 0 -> tellSheet();
+            case 5 -> tellLikelyPort();
+            case 6 -> tellBus(someSheet(), someName());
+            case 7 -> tellOther(someName());
+            // The other kinds' places among the cases of tellThing.
+            default -> tellThing(new int[] {0, 0, 3, 4, 6}[kind]);
+        }
+    }
+
+    private void tellLikelyPort() {
+        int s = someSheet();
+        int l = random.nextInt(60);
+        for (int i = 0; i < 1000 && !(s >= 0 && s < sheets && y.couldHavePort(s, l)); i++) {
+            s = someSheet();
+            l = random.nextInt(60);
+        }
+        tellPort(s, l, someName());
     }
 
     /** Asks for all there is, in order, as long as the object's calls last. */
@@ -118,6 +146,7 @@ public final class RandomRunsTest {
             compare("changed(" + i + ")", () -> x.changed(i), () -> y.changed(i));
             compare("netOf(" + i / 3 + ", " + i % 3 + ")", () -> x.netOf(i / 3, i % 3), () -> y.netOf(i / 3, i % 3));
         }
+        check.holds(calls <= CALLS, "the run has " + calls + " calls");
     }
 
     private void tellSheet() {
@@ -130,7 +159,7 @@ public final class RandomRunsTest {
         });
     }
 
-    private void tellThing() {
+    private void tellThing(int kind) {
         int s = someSheet();
         long a = coordinate();
         long b = coordinate();
@@ -138,7 +167,7 @@ public final class RandomRunsTest {
         long d = random.nextInt(3) == 0 ? b : coordinate();
         int n = someName();
         String at = "(" + s + ", " + a + ", " + b;
-        switch (random.nextInt(3) == 0 ? favourite : random.nextInt(13)) {
+        switch (kind) {
             case 0, 1, 2 -> compare("wire" + at + ", " + c + ", " + d + ")",
                     () -> x.wire(s, a, b, c, d), () -> y.wire(s, a, b, c, d));
             case 3 -> compareYes("junction" + at + ")", () -> x.junction(s, a, b), () -> y.junction(s, a, b));
@@ -147,14 +176,13 @@ public final class RandomRunsTest {
                 int part = random.nextInt(3) - 1;
                 compare("pin" + at + ", " + part + ")", () -> x.pin(s, a, b, part), () -> y.pin(s, a, b, part));
             }
-            case 9 -> tellPort(s, n);
+            case 9 -> tellPort(s, random.nextInt(rarely() ? 62 : 12) - (rarely() ? 2 : 0), n);
             case 10 -> tellBus(s, n);
             default -> tellOther(n);
         }
     }
 
-    private void tellPort(int s, int n) {
-        int l = random.nextInt(rarely() ? 62 : 12) - (rarely() ? 2 : 0);
+    private void tellPort(int s, int l, int n) {
         compareYes("port(" + s + ", " + l + ", " + n + ")", () -> x.port(s, l, n), () -> y.port(s, l, n));
     }
 

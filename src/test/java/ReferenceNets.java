@@ -125,6 +125,12 @@ final class ReferenceNets {
         return true;
     }
 
+    /** For tests that look for a port to tell; no call of the face. */
+    boolean couldHavePort(int sheet, int label) {
+        return label < labels.size() && copies(labels.get(label).sheet).contains(sheet)
+                && sheets.get(sheet).parent != NONE;
+    }
+
     boolean bus(int sheet, int name, int from, int to) {
         lookAt(sheet, 0, 0, name);
         lookAtName(from);

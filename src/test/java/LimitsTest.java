@@ -244,10 +244,14 @@ public final class LimitsTest extends Calls {
 
     private static void wireOrder() {
         Drawing d = threeSheets("3, which reason is looked at first");
-        d.refuses(OUT, wire(3, FAR + 1, 0, 0, 0));
-        d.refuses(OUT, wire(-1, 0, 0, 0, 0));
-        d.refuses(STATE, wire(2, 0, 0, 0, 0));
-        d.refuses(STATE, wire(2, 0, 0, 0, -FAR - 1));
+        for (int s : new int[] {-1, 2, 3}) {
+            long due = s == 2 ? STATE : OUT;
+            d.refuses(due, wire(s, 0, 0, 0, 0));
+            d.refuses(due, wire(s, FAR + 1, 0, 0, 0));
+            d.refuses(due, wire(s, 0, FAR + 1, 0, 0));
+            d.refuses(due, wire(s, 0, 0, -FAR - 1, 0));
+            d.refuses(due, wire(s, 0, 0, 0, -FAR - 1));
+        }
     }
 
     private static void wiresFull() {
@@ -258,12 +262,14 @@ public final class LimitsTest extends Calls {
                 d.takes(0, drop(i));
             }
         }
-        d.takes(99, wire(1, 99, 5, 99, 6));
+        // The last one that is taken changes nets, so that a refused one could be seen to forget that.
+        d.takes(99, wire(1, 0, 0, 10, 0));
         d.refuses(NONE, wire(0, 0, 0, 10, 0));
         d.refuses(NONE, wire(1, 0, 0, 10, 0));
-        d.takes(0, drop(99));
+        d.takes(4, drop(99));
         d.refuses(NONE, wire(0, 0, 0, 10, 0));
-        d.refuses(NONE, wire(1, 99, 5, 99, 6));
+        d.refuses(NONE, wire(1, 0, 0, 10, 0));
+        d.refuses(OUT, drop(100));
         d.refuses(OUT, wire(3, 0, 0, 0, 0));
         d.refuses(STATE, wire(2, 0, 0, 0, 0));
         d.refuses(ARGUMENT, wire(1, 0, 0, 0, 0));
@@ -276,7 +282,7 @@ public final class LimitsTest extends Calls {
     /** Two wires that cross at 5, 5 and at no junction, with a pin each, on a sheet and its repeat. */
     private static Drawing crossing(String sentence) {
         return drawing(sentence, sheet(NONE, NONE), sheet(NONE, 0), sheet(NONE, NONE),
-                pin(0, 0, 0, 1), pin(0, 10, 0, 1), wire(0, 0, 0, 10, 10), wire(0, 10, 0, 0, 10));
+                wire(0, 0, 0, 10, 10), wire(0, 10, 0, 0, 10), pin(0, 0, 0, 1), pin(0, 10, 0, 1));
     }
 
     private static void junctionPlaces() {
@@ -308,13 +314,16 @@ public final class LimitsTest extends Calls {
 
     private static void junctionsFull() {
         Drawing d = crossing("4, false when there are 50 of all sheets");
-        for (int i = 0; i < 50; i++) {
+        d.tell(wire(2, 0, 0, 10, 10), wire(2, 10, 0, 0, 10), pin(2, 0, 0, 1), pin(2, 10, 0, 1));
+        for (int i = 0; i < 49; i++) {
             d.takes(YES, junction(i % 2 * 2, i, -1));
         }
+        d.takes(YES, junction(2, 5, 5));
+        d.asks(4, changed(0));
         d.refuses(NO, junction(0, 5, 5));
-        d.refuses(NO, junction(2, 5, 5));
+        d.refuses(NO, junction(2, 6, 6));
         d.refuses(NO, junction(0, 48, -1));
-        d.asks(4, nets());
+        d.asks(5, nets());
         d.refuses(OUT, junction(3, 5, 5));
         d.refuses(STATE, junction(1, 5, 5));
         d.refuses(ARGUMENT, junction(0, 5, FAR + 1));
@@ -355,12 +364,14 @@ public final class LimitsTest extends Calls {
 
     private static void labelsFull() {
         Drawing d = threeSheets("5, NONE when there are 60");
-        for (int i = 0; i < 60; i++) {
+        for (int i = 0; i < 59; i++) {
             d.takes(i, label(i % 2, i, 5, i));
         }
+        d.takes(59, label(1, 0, 0, 999));
+        d.asks(2, changed(0));
         d.refuses(NONE, label(0, 0, 0, 900));
         d.refuses(NONE, label(1, 0, 0, 900));
-        d.refuses(NONE, label(0, 0, 5, 0));
+        d.refuses(NONE, label(0, 0, 0, 999));
         d.refuses(OUT, label(3, 0, 0, 1000));
         d.refuses(STATE, label(2, 0, 0, 1000));
         d.refuses(ARGUMENT, label(1, 0, 0, 1000));
@@ -483,9 +494,11 @@ public final class LimitsTest extends Calls {
 
     private static void portsFull() {
         Drawing d = withLabels("7, false when there are 30");
-        for (int i = 0; i < 30; i++) {
+        for (int i = 0; i < 29; i++) {
             d.takes(YES, port(1 + i % 2, 1 + i / 2 % 2, 100 + i));
         }
+        d.takes(YES, port(1, 1, 20));
+        d.asks(0, changed(0));
         d.refuses(NO, port(1, 1, 20));
         d.refuses(NO, port(2, 2, 20));
         d.refuses(NO, port(1, 1, 100));
@@ -493,7 +506,7 @@ public final class LimitsTest extends Calls {
         d.refuses(OUT, port(1, 3, 20));
         d.refuses(STATE, port(3, 1, 20));
         d.refuses(ARGUMENT, port(1, 1, 1000));
-        d.asks(7, nets());
+        d.asks(6, nets());
     }
 
     // ---- promise 8
@@ -504,9 +517,12 @@ public final class LimitsTest extends Calls {
             d.refuses(ARGUMENT, bus(1, no, 5, 6));
             d.refuses(ARGUMENT, bus(1, 950, no, 6));
             d.refuses(ARGUMENT, bus(1, 950, 5, no));
-            d.refuses(STATE, bus(2, no, 5, 6));
-            d.refuses(STATE, bus(2, 950, no, 6));
-            d.refuses(OUT, bus(4, 950, 5, no));
+            for (int s = 2; s <= 4; s++) {
+                long due = s == 4 ? OUT : STATE;
+                d.refuses(due, bus(s, no, 5, 6));
+                d.refuses(due, bus(s, 950, no, 6));
+                d.refuses(due, bus(s, 950, 5, no));
+            }
         }
         for (int name : LAST_NAMES) {
             d.takes(YES, bus(1, name, 5, 6));
@@ -537,16 +553,18 @@ public final class LimitsTest extends Calls {
     private static void busesFull() {
         Drawing d = withLabels("8, false when there are 16");
         d.tell(bus(1, 7, 5, 5));
-        for (int i = 1; i < 16; i++) {
+        for (int i = 1; i < 15; i++) {
             d.takes(YES, bus(i % 2, 10 + i, 5, 6));
         }
+        d.takes(YES, bus(1, 950, 5, 5));
+        d.asks(1, changed(0));
         d.refuses(NO, bus(1, 7, 6, 6));
         d.refuses(NO, bus(1, 950, 5, 6));
         d.refuses(NO, bus(1, 7, 5, 5));
         d.refuses(OUT, bus(4, 7, 6, 6));
         d.refuses(STATE, bus(2, 7, 6, 6));
         d.refuses(ARGUMENT, bus(1, 7, 6, 1000));
-        d.asks(7, nets());
+        d.asks(5, nets());
     }
 
     // ---- promises 9 and 10

@@ -70,6 +70,7 @@ final class Trace extends Calls {
             ask(drop(w));
         }
         ask(drop(99));
+        ask(drop(100));
         ask(nets());
     }
 
